@@ -44,7 +44,9 @@ public final class FragileRules {
     // By number: rule n is at n - 1, wherever it stands in the order.
     private final Rule[] rules = new Rule[MAX_RULES];
     private int ruleCount = 0;
+    // Up to ruleCount each of the numbers 1 .. ruleCount once, so that each of them, less 1, is a place of rules.
     private final int[] numbersInOrder = new int[MAX_RULES];
+    // As long as the order: an asking comes to each rule at most once.
     private final int[] askedNumbers = new int[MAX_RULES];
     private int askedCount = 0;
     private final Text text = new Text();

@@ -7,10 +7,26 @@ import java.util.TreeSet;
 
 /** The public face: what the document names, and nothing else that another class could see. */
 public final class FaceTest {
-    private static final Set<String> FACE = Set.of("int unit(int,int,int)", "int rule(int,int,int)",
-        "int own(int,boolean)", "void sign(int)", "int read()", "int may(int,int,int)", "int together(int,int)",
-        "int mark(int,int)", "int asked(int)", "int never(int)", "int order(int,int)", "int told(int,int)",
-        "int about(int,int)", "int count(int)");
+    private static final String ARGUMENT = "IllegalArgumentException";
+    private static final String STATE = "IllegalStateException";
+    private static final String ELEMENT = "NoSuchElementException";
+    private static final String ROOM = "UnsupportedOperationException";
+
+    private static final Set<String> FACE = Set.of(
+        "int unit(int,int,int) throws " + ARGUMENT + "," + ROOM,
+        "int rule(int,int,int) throws " + ARGUMENT + "," + ROOM,
+        "int own(int,boolean) throws " + ARGUMENT + "," + ROOM,
+        "void sign(int) throws " + ARGUMENT + "," + ROOM,
+        "int read() throws " + ROOM,
+        "int may(int,int,int) throws " + ELEMENT + "," + ARGUMENT + "," + STATE,
+        "int together(int,int) throws " + ELEMENT + "," + STATE,
+        "int mark(int,int) throws " + ELEMENT + "," + ARGUMENT + "," + STATE,
+        "int asked(int)",
+        "int never(int) throws " + ARGUMENT,
+        "int order(int,int) throws " + ELEMENT + "," + ARGUMENT,
+        "int told(int,int) throws " + ELEMENT + "," + ARGUMENT,
+        "int about(int,int) throws " + ELEMENT + "," + ARGUMENT,
+        "int count(int)");
 
     public static void main(String[] args) {
         Check check = new Check("the face");
@@ -34,6 +50,11 @@ public final class FaceTest {
             String name = method.substring(method.indexOf(' ') + 1, method.indexOf('('));
             check.compare("a private method named " + name, "false", String.valueOf(hidden.contains(name)));
         }
+        for (Class<?> inside : face.getDeclaredClasses()) {
+            int modifiers = inside.getModifiers();
+            check.compare("class " + inside.getSimpleName() + " is static and not to be seen", "true", String.valueOf(
+                Modifier.isStatic(modifiers) && !Modifier.isPublic(modifiers) && !Modifier.isProtected(modifiers)));
+        }
         for (Field field : face.getDeclaredFields()) {
             check.compare("field " + field.getName() + " is private", "true",
                 String.valueOf(Modifier.isPrivate(field.getModifiers())));
@@ -45,10 +66,16 @@ public final class FaceTest {
 
     private static String signature(Method method) {
         String plain = Modifier.isPublic(method.getModifiers()) && !Modifier.isStatic(method.getModifiers()) ? "" : "?";
-        StringBuilder types = new StringBuilder();
-        for (Class<?> type : method.getParameterTypes()) {
-            types.append(types.length() == 0 ? "" : ",").append(type.getSimpleName());
+        String thrown = names(method.getExceptionTypes());
+        return plain + method.getReturnType().getSimpleName() + " " + method.getName() + "("
+            + names(method.getParameterTypes()) + ")" + (thrown.isEmpty() ? "" : " throws " + thrown);
+    }
+
+    private static String names(Class<?>[] types) {
+        StringBuilder names = new StringBuilder();
+        for (Class<?> type : types) {
+            names.append(names.length() == 0 ? "" : ",").append(type.getSimpleName());
         }
-        return plain + method.getReturnType().getSimpleName() + " " + method.getName() + "(" + types + ")";
+        return names.toString();
     }
 }
